@@ -511,6 +511,7 @@ public final class LevelTypes {
             return parent == null ? valueType == home.valueType : parent.admits(place, valueType);
         }
 
+        /** While its parts are looked at, an if's or a case's valueType is that of the part before. */
         private boolean admits(int part, int type) {
             switch (kind) {
                 case Kind.IF:
