@@ -27,6 +27,10 @@ final class Expect {
         return wrong;
     }
 
+    int asked() {
+        return asked;
+    }
+
     void finish() {
         System.out.println(asked + " answers, " + wrong + " of them not as due");
         if (wrong != 0) {
