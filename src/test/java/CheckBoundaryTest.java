@@ -260,9 +260,14 @@ public final class CheckBoundaryTest {
         itselfAndTheLast();
     }
 
-    /** A definition is looked for by its whole name, not by half of it. */
+    /** A definition is looked for by all the bits of its name. */
     private static void farNames() {
-        long far = 9L + (1L << 32);
+        for (int bits = 8; bits < 63; bits++) {
+            farName(9L + (1L << bits));
+        }
+    }
+
+    private static void farName(long far) {
         for (boolean same : new boolean[] {true, false}) {
             LevelTypes x = new LevelTypes();
             x.define(false, far, 0);

@@ -257,6 +257,46 @@ public final class TermsBoundaryTest {
         binders("16 18:c c 21:c c 19 c", "c2", 2, -1, -1, -2, -1, 1, -1, 3);
         binders("16 22:a:c b 18:c c 19 c 18:a c 22:a:c a 19 0 19 a", "a3 b1 c2", 2,
             -1, -1, -3, -1, -4, -1, 3, -1, 1, -1, 7, -1, -1, -1, 9);
+        for (int bits = 8; bits < 63; bits++) {
+            likeNames(9, 9 + (1L << bits));
+            likeNames(9 + (1L << bits), 9);
+            likeNames(1L << bits, 1L << (bits - 1));
+        }
+    }
+
+    /** Names are told apart by all their bits: an inner X or Y with a like name hides nothing. */
+    private static void likeNames(long name, long inner) {
+        LevelTypes x = new LevelTypes();
+        x.define(false, 'f', 0);
+        x.node(11, name, 0, 2);
+        x.node(0, 0, 0, 0);
+        x.node(11, inner, 0, 2);
+        x.node(0, 0, 0, 0);
+        x.node(12, 5, inner, 3);
+        x.node(2, 0, 0, 0);
+        x.node(1, inner, 0, 0);
+        x.node(1, name, 0, 0);
+        x.define(true, 'g', 0);
+        x.parameter(name, 2);
+        x.node(18, inner, 0, 2);
+        x.node(1, name, 0, 0);
+        x.node(21, inner, 0, 2);
+        x.node(1, name, 0, 0);
+        x.node(22, inner, 5, 3);
+        x.node(2, 0, 0, 0);
+        x.node(19, 0, 0, 1);
+        x.node(0, 0, 0, 0);
+        x.node(18, 6, 0, 2);
+        x.node(1, name, 0, 0);
+        x.node(19, 0, 0, 1);
+        x.node(1, inner, 0, 0);
+        Put.main(x);
+        String what = name + " and " + inner;
+        expect.same(what + ": check()", x.check(), 0);
+        int[] due = {-1, -1, -1, -1, -1, -1, 2, 0, -1, -2, -1, -2, -1, -1, -1, -1, -1, -2, -1, 12};
+        for (int k = 0; k < due.length; k++) {
+            expect.same(what + ": binder(" + k + ")", x.binder(k), due[k]);
+        }
     }
 
     private static void binders(String text, String parameters, int type, int... due) {
